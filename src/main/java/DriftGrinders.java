@@ -215,11 +215,14 @@ public final class DriftGrinders {
     }
 
     private static int fallOf(int warmth) {
-        return warmth < 1 ? 0 : Math.max(1, warmth / 16);
+        if (warmth < 1) {
+            return 0;
+        }
+        return warmth < 16 ? 1 : warmth / 16;
     }
 
     private static int flowOf(int hardness, int gap) {
-        return hardness * 1000 / Math.max(GAP_LEAST, gap);
+        return gap < GAP_LEAST ? 0 : hardness * 1000 / gap;
     }
 
     /** Kind, burr and gap in one number, as portions are alike only if all three are. */
