@@ -248,8 +248,8 @@ public final class DriftGrinders {
         private final Burr burr0 = new Burr();
         private final Burr burr1 = new Burr();
         // ahead of its overflow the chute has what each lot gave besides what it held
-        private final Portions chute = new Portions(CHUTE_MOST + LOTS_MOST);
-        private final Portions basket = new Portions(BASKET_MOST);
+        private final Row chute = new Row(CHUTE_MOST + LOTS_MOST);
+        private final Row basket = new Row(BASKET_MOST);
         private final Shots shots = new Shots();
         private final int[] settings = {280, 20, 40, 90, 120, 0};
         private int second;
@@ -288,14 +288,14 @@ public final class DriftGrinders {
             }
             hopper.pourIn(kind, amount);
             filled += amount;
-            return hopper.total;
+            return hopper.amount();
         }
 
         int grindBy(int burr, int amount) {
             if (!isZeroOrOne(burr) || amount < 1 || amount > GRIND_MOST) {
                 return INVALID_ARGUMENT;
             }
-            if (hopper.total < amount) {
+            if (hopper.amount() < amount) {
                 return NOT_POSSIBLE;
             }
             int out = Math.max(0, chute.total + amount - settings[CHUTE_HOLDS]);
@@ -305,7 +305,7 @@ public final class DriftGrinders {
             Burr grinding = burrNumbered(burr);
             hopper.letOut(amount, burr, grinding.gap(), chute);
             grinding.warmByGrinding(amount);
-            chute.letOut(out, basket);
+            chute.letOut(out, 0, basket);
             ground += amount;
             passSeconds((amount + 9) / 10);
             return out;
@@ -408,7 +408,7 @@ public final class DriftGrinders {
             return was;
         }
 
-        int tellPortion(Portions row, int portion, int what) {
+        int tellPortion(Row row, int portion, int what) {
             if (portion >= row.length) {
                 return NOT_FOUND;
             }
@@ -442,7 +442,7 @@ public final class DriftGrinders {
         }
 
         int staleFor(int burr) {
-            if (hopper.lots < 1) {
+            if (hopper.isEmpty()) {
                 return NOT_POSSIBLE;
             }
             int fresh = markOf(hopper.firstKind(), burr, burrNumbered(burr).gap());
@@ -468,7 +468,7 @@ public final class DriftGrinders {
                 case 4:
                     return purged;
                 case 5:
-                    return hopper.total;
+                    return hopper.amount();
                 case 6:
                     return chute.total;
                 case 7:
@@ -491,70 +491,50 @@ public final class DriftGrinders {
     }
 
     private static final class Hopper {
-        private final int[] kinds = new int[LOTS_MOST];
-        private final int[] amounts = new int[LOTS_MOST];
-        private int lots;
-        private int total;
+        // what is not ground has neither burr nor gap: the mark of a lot is its kind
+        private final Row lots = new Row(LOTS_MOST);
 
         void copyFrom(Hopper other) {
-            System.arraycopy(other.kinds, 0, kinds, 0, LOTS_MOST);
-            System.arraycopy(other.amounts, 0, amounts, 0, LOTS_MOST);
-            lots = other.lots;
-            total = other.total;
+            lots.copyFrom(other.lots);
+        }
+
+        int amount() {
+            return lots.total;
+        }
+
+        boolean isEmpty() {
+            return lots.length < 1;
         }
 
         boolean hasRoomFor(int kind, int amount) {
-            return total + amount <= HOPPER_MOST && (lots < LOTS_MOST || endsWith(kind));
+            return lots.total + amount <= HOPPER_MOST && (lots.length < LOTS_MOST || endsWith(kind));
         }
 
         private boolean endsWith(int kind) {
-            return lots > 0 && lots <= LOTS_MOST && kinds[lots - 1] == kind;
+            return lots.length > 0 && lots.markAt(lots.length - 1) == kind;
         }
 
         void pourIn(int kind, int amount) {
             if (endsWith(kind)) {
-                amounts[lots - 1] += amount;
-                total += amount;
-            } else if (lots < LOTS_MOST) {
-                kinds[lots] = kind;
-                amounts[lots] = amount;
-                lots++;
-                total += amount;
+                lots.addToLast(amount);
+            } else {
+                lots.append(amount, kind);
             }
         }
 
-        /** Lets beans out of the first lots, each part of a lot as a portion of its own. */
-        void letOut(int amount, int burr, int gap, Portions into) {
-            int left = amount;
-            int emptied = 0;
-            for (int i = 0; i < lots && left > 0; i++) {
-                int part = Math.min(left, amounts[i]);
-                into.append(part, markOf(kinds[i], burr, gap));
-                amounts[i] -= part;
-                left -= part;
-                if (amounts[i] == 0) {
-                    emptied++;
-                }
-            }
-            total -= amount - left;
-            dropFirst(emptied);
-        }
-
-        private void dropFirst(int emptied) {
-            lots -= emptied;
-            System.arraycopy(kinds, emptied, kinds, 0, lots);
-            System.arraycopy(amounts, emptied, amounts, 0, lots);
+        void letOut(int amount, int burr, int gap, Row into) {
+            lots.letOut(amount, markOf(0, burr, gap), into);
         }
 
         int firstKind() {
-            return kinds[0];
+            return lots.markAt(0);
         }
 
         int tell(int lot, int what) {
-            if (lot < 0 || lot >= lots) {
+            if (lot < 0 || lot >= lots.length) {
                 return NOT_FOUND;
             }
-            return what == 0 ? kinds[lot] : amounts[lot];
+            return what == 0 ? lots.markAt(lot) : lots.amountAt(lot);
         }
     }
 
@@ -621,19 +601,19 @@ public final class DriftGrinders {
         }
     }
 
-    /** Portions one behind another, the earliest first. */
-    private static final class Portions {
+    /** Amounts of beans one behind another, the earliest first, each with the mark of what it is. */
+    private static final class Row {
         private final int[] amounts;
         private final int[] marks;
         private int length;
         private int total;
 
-        Portions(int most) {
+        Row(int most) {
             amounts = new int[most];
             marks = new int[most];
         }
 
-        void copyFrom(Portions other) {
+        void copyFrom(Row other) {
             length = Math.min(other.length, amounts.length);
             total = other.total;
             System.arraycopy(other.amounts, 0, amounts, 0, length);
@@ -645,7 +625,7 @@ public final class DriftGrinders {
             total = 0;
         }
 
-        /** There is always room: a portion has 1 at least, and the amounts altogether are limited. */
+        /** There is always room: an amount is 1 at least, and the amounts altogether are limited. */
         void append(int amount, int mark) {
             if (length < amounts.length) {
                 amounts[length] = amount;
@@ -655,13 +635,20 @@ public final class DriftGrinders {
             }
         }
 
-        /** Lets the earliest portions go, the last of them in part if it has more than is to go. */
-        void letOut(int amount, Portions into) {
+        void addToLast(int amount) {
+            if (length > 0) {
+                amounts[length - 1] += amount;
+                total += amount;
+            }
+        }
+
+        /** Lets the earliest ones go, the last of them in part if it has more than is to go. */
+        void letOut(int amount, int addedToMarks, Row into) {
             int left = amount;
             int emptied = 0;
             for (int i = 0; i < length && left > 0; i++) {
                 int part = Math.min(left, amounts[i]);
-                into.append(part, marks[i]);
+                into.append(part, marks[i] | addedToMarks);
                 amounts[i] -= part;
                 left -= part;
                 if (amounts[i] == 0) {
@@ -678,12 +665,12 @@ public final class DriftGrinders {
             System.arraycopy(marks, emptied, marks, 0, length);
         }
 
-        int amountAt(int portion) {
-            return portion < 0 || portion >= length ? 0 : amounts[portion];
+        int amountAt(int index) {
+            return index < 0 || index >= length ? 0 : amounts[index];
         }
 
-        int markAt(int portion) {
-            return portion < 0 || portion >= length ? 0 : marks[portion];
+        int markAt(int index) {
+            return index < 0 || index >= length ? 0 : marks[index];
         }
 
         /** Whether more than half has this bit in its mark: what is alike counts for 0. */
