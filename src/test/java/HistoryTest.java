@@ -21,6 +21,8 @@ public final class HistoryTest {
         textIsNotRecorded();
         typingIsNoChange();
         countsAreRestored();
+        accountsOfManyCalls();
+        eachStateIsItsOwn();
         shotsComeBack();
         shotNumbersAreGivenAgain();
         Due.end();
@@ -177,6 +179,67 @@ public final class HistoryTest {
         int[] ahead = {10, 200, 100, 0, 0, 100, 40, 60, 0, 0};
         for (int what = 0; what < ahead.length; what++) {
             Due.due("count(" + what + "), undone", ahead[what], x.count(what));
+        }
+    }
+
+    /** "so far" is of all calls together, and undo brings back what it was. */
+    private static void accountsOfManyCalls() {
+        DriftGrinders x = new DriftGrinders();
+        int[] behindTwo = accountsBehind(x, 2);
+        int[] due = {200, 90, 22, 68};
+        for (int i = 0; i < due.length; i++) {
+            Due.due("behind two rounds, count(" + (i + 1) + ")", due[i], behindTwo[i]);
+        }
+        Due.due("by burr 1", 90, x.burrOf(1, 3));
+        for (int what = 1; what <= 4; what++) {
+            DriftGrinders y = new DriftGrinders();
+            accountsBehind(y, 2);
+            y.fill(0, 50);
+            y.grind(0, 41);
+            y.shot();
+            y.purge();
+            Due.due("more than before", 1, y.count(what) > due[what - 1] ? 1 : 0);
+            for (int left = 3; left >= 0; left--) {
+                y.undo();
+            }
+            Due.due("undone, count(" + what + ")", due[what - 1], y.count(what));
+        }
+    }
+
+    private static int[] accountsBehind(DriftGrinders x, int rounds) {
+        x.set(2, 34);
+        for (int i = 0; i < rounds; i++) {
+            x.fill(i % 2, 100);
+            x.grind(1, 45);
+            x.shot();
+            x.purge();
+        }
+        return new int[] {x.count(1), x.count(2), x.count(3), x.count(4)};
+    }
+
+    /** States that came back by undo and those that are recorded then do not change one another. */
+    private static void eachStateIsItsOwn() {
+        for (int undone = 1; undone <= 4; undone++) {
+            DriftGrinders x = new DriftGrinders();
+            for (int i = 0; i < 6; i++) {
+                x.rest(1);
+            }
+            for (int i = 0; i < undone; i++) {
+                x.undo();
+            }
+            int second = x.count(0);
+            Due.due("seconds left", 6 - undone, second);
+            for (int i = 1; i <= 6; i++) {
+                x.rest(10);
+                x.wouldTake(0, 1);
+                x.play();
+            }
+            Due.due("twelve changes", second + 60, x.count(0));
+            int[] tens = {60, 50, 50, 40};
+            for (int left = 3; left >= 0; left--) {
+                Due.due("undo", left, x.undo());
+                Due.due("the second then", second + tens[3 - left], x.count(0));
+            }
         }
     }
 
