@@ -609,8 +609,9 @@ public final class DriftGrinders {
         private int total;
 
         Row(int most) {
-            amounts = new int[most];
-            marks = new int[most];
+            int room = Math.max(0, most);
+            amounts = new int[room];
+            marks = new int[room];
         }
 
         void copyFrom(Row other) {

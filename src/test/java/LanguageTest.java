@@ -93,7 +93,7 @@ public final class LanguageTest {
         for (String line : code.split("\n")) {
             if (line.contains("new ")) {
                 boolean field = line.matches(" +private (final )?[\\w\\[\\]]+ \\w+ = new .*;");
-                boolean row = line.matches(" +(amounts|marks) = new int\\[most\\];");
+                boolean row = line.matches(" +(amounts|marks) = new int\\[room\\];");
                 Due.due("LANGUAGE:" + line, 1, field || row ? 1 : 0);
             }
         }
